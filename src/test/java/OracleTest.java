@@ -1,0 +1,137 @@
+import java.util.Random;
+
+/** Chance runs of calls, always the same ones, on the class and on the oracle: the answers must be alike. */
+public final class OracleTest {
+    private static final Checks c = new Checks();
+    private static final int CALLS = 120;
+
+    private final Random chance;
+    private final RoundSearch x = new RoundSearch();
+    private final Oracle o = new Oracle();
+    private final String name;
+    private final int mostStops;
+    private final long scale;
+
+    private OracleTest(int seed) {
+        chance = new Random(seed);
+        name = "run " + seed;
+        // Short runs for exact rounds, long ones for those that are inserted.
+        mostStops = seed % 3 == 0 ? 20 : Oracle.MOST_LOOKED_AT;
+        scale = seed % 2 == 0 ? 4 : 1000;
+    }
+
+    public static void main(String[] args) {
+        for (int seed = 1; seed <= 1500; seed++) {
+            new OracleTest(seed).run();
+        }
+        c.end();
+    }
+
+    private void run() {
+        int first = mostStops == 20 ? 12 + chance.nextInt(8) : chance.nextInt(mostStops + 1);
+        for (int k = 0; k < first; k++) {
+            stop();
+        }
+        for (int k = 0; k < 3 * first; k++) {
+            way();
+        }
+        for (int k = 0; k < CALLS; k++) {
+            call();
+            same();
+        }
+    }
+
+    private void call() {
+        switch (chance.nextInt(12)) {
+            case 0 -> maybeStop();
+            case 1, 2 -> way();
+            case 3 -> load();
+            case 4 -> limit();
+            case 5, 6 -> maybeSolve();
+            case 7 -> freeze();
+            case 8 -> add();
+            case 9, 10 -> arc();
+            default -> exchange();
+        }
+    }
+
+    private int point() {
+        return chance.nextInt(o.count() + 3) - 1;
+    }
+
+    private long seconds(long most) {
+        return chance.nextInt(20) == 0 ? (chance.nextBoolean() ? -1 : most + 1) : chance.nextInt((int) scale);
+    }
+
+    private void stop() {
+        long time = seconds(100000);
+        long from = chance.nextInt(3) == 0 ? chance.nextInt((int) (10 * scale)) : 0;
+        long until = chance.nextInt(3) == 0 ? from + chance.nextInt((int) (10 * scale)) - 1 : 1000000;
+        c.due(name + " stop", x.stop(time, from, until), o.stop(time, from, until));
+    }
+
+    private void maybeStop() {
+        if (o.count() < mostStops || mostStops == 20) {
+            stop();
+        }
+    }
+
+    private void way() {
+        int a = point();
+        int b = point();
+        long t = seconds(100000);
+        x.way(a, b, t);
+        o.way(a, b, t);
+    }
+
+    private void load() {
+        int stop = point();
+        int n = chance.nextInt(10) == 0 ? 1001 : chance.nextInt(10) - 1;
+        c.due(name + " load", x.load(stop, n), o.load(stop, n));
+    }
+
+    private void limit() {
+        int n = chance.nextBoolean() ? -1 : chance.nextInt(60) - 2;
+        c.due(name + " limit", x.limit(n), o.limit(n));
+    }
+
+    // The oracle looks at every row, so it is not asked for more free stops than it can look at.
+    private void maybeSolve() {
+        if (o.free() <= Oracle.MOST_LOOKED_AT || o.free() > 11) {
+            long steps = chance.nextInt(10) == 0 ? 100001 : chance.nextInt(5) == 0 ? 100000 : chance.nextInt(100) - 1;
+            c.due(name + " solve", x.solve(steps), o.solve(steps));
+        }
+    }
+
+    private void freeze() {
+        int n = chance.nextInt(3) == 0 ? point() : chance.nextInt(3);
+        c.due(name + " freeze", x.freeze(n), o.freeze(n));
+    }
+
+    private void add() {
+        int stop = point();
+        c.due(name + " add", x.add(stop), o.add(stop));
+    }
+
+    private void arc() {
+        int a = point();
+        int b = point();
+        int kind = chance.nextInt(10) == 0 ? 2 : chance.nextInt(2);
+        c.due(name + " arc", x.arc(a, b, kind), o.arc(a, b, kind));
+    }
+
+    private void exchange() {
+        int i = point();
+        int j = point();
+        c.due(name + " exchange", x.exchange(i, j), o.exchange(i, j));
+    }
+
+    private void same() {
+        for (int i = -1; i <= o.count(); i++) {
+            c.due(name + " at(" + i + ")", Checks.atOrThrown(x, i), o.at(i));
+            c.due(name + " late(" + i + ")", x.late(i), o.late(i));
+        }
+        c.due(name + " exact", x.exact() ? 1 : 0, o.exact() ? 1 : 0);
+        c.due(name + " bound", x.bound(), o.bound());
+    }
+}
