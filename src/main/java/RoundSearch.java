@@ -15,7 +15,8 @@ public final class RoundSearch {
     private static final int MOST_LOAD = 1000;
     private static final long MOST_STEPS = 100000L;
     private static final long FAULT = 1000000000L;
-    private static final long NEVER = Long.MAX_VALUE;
+    // Later than any round can be, and not so late that a way more would wrap around.
+    private static final long NEVER = 1000000000000000L;
 
     private final Net net = new Net();
     private final ExactSearch exactSearch = new ExactSearch();
@@ -45,7 +46,7 @@ public final class RoundSearch {
         if (!net.isPoint(a) || !net.isPoint(b) || a == b || !isSeconds(t)) {
             return;
         }
-        net.way[Net.between(a, b)] = t;
+        net.tellWay(a, b, t);
         solvedExactly = false;
     }
 
@@ -56,7 +57,7 @@ public final class RoundSearch {
         if (n < 0 || n > MOST_LOAD) {
             return OUTSIDE;
         }
-        net.load[stop] = n;
+        net.tellLoad(stop, n);
         return net.loads();
     }
 
@@ -290,6 +291,14 @@ public final class RoundSearch {
             return stops;
         }
 
+        void tellWay(int a, int b, long t) {
+            way[between(a, b)] = t;
+        }
+
+        void tellLoad(int stop, int n) {
+            load[stop] = n;
+        }
+
         int loads() {
             int sum = 0;
             for (int stop = 1; stop <= stops; stop++) {
@@ -408,13 +417,10 @@ public final class RoundSearch {
                 return false;
             }
             followFrozen(net, row, frozen);
-            collectFree(net, row, frozen);
-            if (count == 0) {
-                return net.stops == 0 || net.goodLeg(start, startClock, OFFICE) != NEVER;
-            }
             if (startClock == NEVER) {
                 return false;
             }
+            collectFree(net, row, frozen);
             reckonSets(net);
             long home = earliest(net, (1 << count) - 1, OFFICE);
             if (home == NEVER) {
@@ -450,21 +456,26 @@ public final class RoundSearch {
             }
             for (int set = 1; set < sets; set++) {
                 for (int last = 0; last < count; last++) {
-                    if ((set >> last & 1) == 1) {
-                        done[set * count + last] = earliest(net, set ^ 1 << last, free[last]);
+                    if (has(set, last)) {
+                        done[set * count + last] = earliest(net, set ^ (1 << last), free[last]);
                     }
                 }
             }
         }
 
-        // When a point can be done at the earliest behind a set of free stops.
+        private static boolean has(int set, int last) {
+            return ((set >> last) & 1) == 1;
+        }
+
+        // When a point can be done at the earliest behind a set of free stops. The office behind nobody is
+        // well, too: no way from it to itself is ever barred, so a round without stops is a good one.
         private long earliest(Net net, int set, int next) {
             if (set == 0) {
                 return net.goodLeg(start, startClock, next);
             }
             long least = NEVER;
             for (int last = 0; last < count; last++) {
-                if ((set >> last & 1) == 1) {
+                if (has(set, last)) {
                     least = Math.min(least, net.goodLeg(free[last], done[set * count + last], next));
                 }
             }
@@ -494,7 +505,7 @@ public final class RoundSearch {
         }
 
         private boolean fits(Net net, int set, int last, int next, long due) {
-            return (set >> last & 1) == 1
+            return has(set, last)
                 && net.goodLeg(free[last], done[set * count + last], next) == due;
         }
     }

@@ -56,11 +56,21 @@ public final class OracleTest {
     }
 
     private int point() {
-        return chance.nextInt(o.count() + 3) - 1;
+        return switch (chance.nextInt(60)) {
+            case 0 -> Integer.MAX_VALUE;
+            case 1 -> Integer.MIN_VALUE;
+            default -> chance.nextInt(o.count() + 3) - 1;
+        };
     }
 
     private long seconds(long most) {
-        return chance.nextInt(20) == 0 ? (chance.nextBoolean() ? -1 : most + 1) : chance.nextInt((int) scale);
+        return switch (chance.nextInt(40)) {
+            case 0 -> -1;
+            case 1 -> most;
+            case 2 -> most + 1;
+            case 3 -> chance.nextLong();
+            default -> chance.nextInt((int) scale);
+        };
     }
 
     private void stop() {

@@ -394,12 +394,13 @@ public final class PromisesTest {
 
         RoundSearch y = line();
         y.solve(0);
-        y.way(0, 1, 0);
-        y.way(2, 3, 0);
-        y.way(3, 0, 0);
-        c.due("exact: exchanged", y.exchange(0, 2), 1);
+        y.freeze(1);
+        y.way(0, 3, 900);
         y.solve(0);
-        c.holds("exact: solved after the exchange", y.exact());
+        y.freeze(0);
+        c.holds("exact: solved behind a frozen stop", y.exact());
+        c.due("exact: exchanged when it is no longer frozen", y.exchange(0, 1), 1);
+        c.fails("exact: exchanged", y.exact());
     }
 
     private static void exactAndRefusals() {
@@ -537,6 +538,10 @@ public final class PromisesTest {
         c.due("exchange: frozen behind", x.exchange(2, 0), STATE);
         c.due("exchange: less faults, later home", x.exchange(1, 2), 1);
         c.round("exchange: faults", x, 1, 3, 2);
+        x.arc(1, 2, 1);
+        x.arc(2, 0, 0);
+        c.due("exchange: barred home", x.exchange(1, 2), 1);
+        c.round("exchange: barred home", x, 1, 2, 3);
     }
 
     private static void bound() {
