@@ -6,7 +6,7 @@ import java.util.Set;
 import java.util.TreeSet;
 
 /** The class has the document's face, and nothing else that can be seen from outside. */
-public final class FaceTest {
+public final class FaceTest extends Checks {
     private static final Set<String> FACE = Set.of(
         "public static final int RoundSearch.UNKNOWN",
         "public static final int RoundSearch.OUTSIDE",
@@ -28,16 +28,15 @@ public final class FaceTest {
         "public long RoundSearch.bound()");
 
     public static void main(String[] args) {
-        Checks c = new Checks();
         Set<String> seen = visible();
         for (String member : FACE) {
-            c.holds("is there: " + member, seen.contains(member));
+            holds("is there: " + member, seen.contains(member));
         }
         for (String member : seen) {
-            c.holds("is of the document: " + member, FACE.contains(member));
+            holds("is of the document: " + member, FACE.contains(member));
         }
-        c.holds("the class is final", Modifier.isFinal(RoundSearch.class.getModifiers()));
-        c.end();
+        holds("the class is final", Modifier.isFinal(RoundSearch.class.getModifiers()));
+        end();
     }
 
     private static Set<String> visible() {

@@ -1,14 +1,15 @@
 import java.util.ArrayList;
-import java.util.HashSet;
+import java.util.Arrays;
+import java.util.Collections;
 import java.util.List;
-import java.util.Set;
 
 /** A slow second RoundSearch: it looks at every row of the free stops, as the document's words say it. */
 final class Oracle {
-    private static final int UNKNOWN = -11;
-    private static final int OUTSIDE = -12;
-    private static final int STATE = -13;
-    private static final int ROOM = -14;
+    private static final int UNKNOWN = Checks.UNKNOWN;
+    private static final int OUTSIDE = Checks.OUTSIDE;
+    private static final int STATE = Checks.STATE;
+    private static final int ROOM = Checks.ROOM;
+    static final long NEVER = Long.MAX_VALUE;
     static final int MOST_LOOKED_AT = 6;
 
     private record Stop(long time, long from, long until) {
@@ -26,7 +27,7 @@ final class Oracle {
 
     private final List<Stop> stops = new ArrayList<>(List.of(new Stop(0, 0, 0)));
     private final long[][] way = new long[21][21];
-    private final Set<List<Integer>> barred = new HashSet<>();
+    private final boolean[][] isBarred = new boolean[21][21];
     private final int[] load = new int[21];
     private int limit = -1;
     private List<Integer> round = null;
@@ -35,7 +36,7 @@ final class Oracle {
 
     Oracle() {
         for (long[] row : way) {
-            java.util.Arrays.fill(row, 1000);
+            Arrays.fill(row, 1000);
         }
     }
 
@@ -83,7 +84,7 @@ final class Oracle {
     }
 
     private int loads() {
-        return java.util.Arrays.stream(load).sum();
+        return Arrays.stream(load).sum();
     }
 
     int limit(int n) {
@@ -101,7 +102,7 @@ final class Oracle {
         List<Integer> late = new ArrayList<>();
         for (int next : row) {
             Stop s = stops.get(next);
-            bars += barred.contains(List.of(here, next)) ? 1 : 0;
+            bars += isBarred[here][next] ? 1 : 0;
             clock += way[here][next];
             if (clock > s.until) {
                 late.add(next);
@@ -110,23 +111,18 @@ final class Oracle {
             here = next;
         }
         if (!row.isEmpty()) {
-            bars += barred.contains(List.of(here, 0)) ? 1 : 0;
+            bars += isBarred[here][0] ? 1 : 0;
             clock += way[here][0];
         }
         return new Walk(clock, late, bars);
     }
 
-    /** When the last of the row is done; -1 if it is not good up to there. */
+    /** When the last of the row is done; NEVER if it is not good up to there. */
     private long done(List<Integer> row) {
         long clock = 0;
         int here = 0;
         for (int next : row) {
-            Stop s = stops.get(next);
-            clock += way[here][next];
-            if (clock > s.until || barred.contains(List.of(here, next))) {
-                return -1;
-            }
-            clock = Math.max(clock, s.from) + s.time;
+            clock = leg(here, clock, next);
             here = next;
         }
         return clock;
@@ -158,11 +154,20 @@ final class Oracle {
     private List<Integer> bestGood() {
         List<List<Integer>> all = new ArrayList<>();
         rows(new ArrayList<>(frozen), freeStops(), all);
-        all.removeIf(row -> !walk(row).good());
-        long first = all.stream().mapToLong(row -> walk(row).home).min().orElse(-1);
-        all.removeIf(row -> walk(row).home != first);
-        all.removeIf(row -> !leastFromBehind(row));
+        long home = leastHome();
+        all.removeIf(row -> !isBest(row, home));
         return all.isEmpty() ? null : all.get(0);
+    }
+
+    /** When a good round is home at the earliest; NEVER if there is none. */
+    long leastHome() {
+        return nextBehind(freeStops(), 0);
+    }
+
+    /** Whether the row is the one that is home first, and of several the one that the document means. */
+    boolean isBest(List<Integer> row, long leastHome) {
+        Walk walk = walk(row);
+        return walk.good() && walk.home == leastHome && leastFromBehind(row);
     }
 
     /**
@@ -172,48 +177,64 @@ final class Oracle {
      */
     private boolean leastFromBehind(List<Integer> row) {
         for (int place = row.size() - 1; place >= frozen.size(); place--) {
-            List<Integer> toThere = row.subList(0, place + 1);
-            if (done(toThere) != done(earliest(toThere, row.get(place)))) {
+            List<Integer> toThere = row.subList(frozen.size(), place + 1);
+            int next = place + 1 < row.size() ? row.get(place + 1) : 0;
+            long nextDone = next == 0 ? walk(row).home : done(row.subList(0, place + 2));
+            int least = Collections.min(toThere.stream().filter(s -> nextByLast(toThere, s, next) == nextDone).toList());
+            if (least != row.get(place) || done(row.subList(0, place + 1)) != earliest(toThere, least)) {
                 return false;
-            }
-            long next = place + 1 < row.size() ? done(row.subList(0, place + 2)) : walk(row).home;
-            for (int stop : row.subList(frozen.size(), place + 1)) {
-                if (stop < row.get(place) && nextBehind(row, place, stop) == next) {
-                    return false;
-                }
             }
         }
         return true;
     }
 
-    /** The row of the same stops with this one last that is done first; null if none is good. */
-    private List<Integer> earliest(List<Integer> row, int last) {
-        List<Integer> before = new ArrayList<>(row.subList(frozen.size(), row.size()));
+    /** When the last one of these is done at the earliest, with the others before it behind the frozen ones. */
+    private long earliest(List<Integer> these, int last) {
+        List<Integer> before = new ArrayList<>(these);
         before.remove(Integer.valueOf(last));
-        List<List<Integer>> all = new ArrayList<>();
-        rows(new ArrayList<>(frozen), before, all);
-        List<Integer> best = null;
-        for (List<Integer> one : all) {
-            List<Integer> whole = new ArrayList<>(one);
-            whole.add(last);
-            if (done(whole) >= 0 && (best == null || done(whole) < done(best))) {
-                best = whole;
+        return nextBehind(before, last);
+    }
+
+    private long nextByLast(List<Integer> these, int last, int next) {
+        return leg(last, earliest(these, last), next);
+    }
+
+    /** When the next one is done at the earliest (0: it is home) behind the frozen ones and all of these. */
+    private long nextBehind(List<Integer> these, int next) {
+        int here = frozen.isEmpty() ? 0 : frozen.get(frozen.size() - 1);
+        if (these.isEmpty() && next == 0 && here == 0) {
+            return 0;
+        }
+        boolean[] left = new boolean[21];
+        these.forEach(stop -> left[stop] = true);
+        return search(here, done(frozen), left, these.size(), next, NEVER);
+    }
+
+    /** Looks at every row of what is left but those that are already no sooner than the best so far. */
+    private long search(int here, long clock, boolean[] left, int count, int next, long best) {
+        if (clock >= best) {
+            return best;
+        }
+        if (count == 0) {
+            return Math.min(best, leg(here, clock, next));
+        }
+        for (int stop = 1; stop <= count(); stop++) {
+            if (left[stop]) {
+                left[stop] = false;
+                best = search(stop, leg(here, clock, stop), left, count - 1, next, best);
+                left[stop] = true;
             }
         }
         return best;
     }
 
-    /** When the next one behind a place is done (or it is home) if another stop is last to there; -1 if not good. */
-    private long nextBehind(List<Integer> row, int place, int stop) {
-        List<Integer> best = earliest(row.subList(0, place + 1), stop);
-        if (best == null) {
-            return -1;
+    /** When the next one is done (0: it is home) from here; NEVER if that is not good. */
+    private long leg(int here, long clock, int next) {
+        long coming = clock + way[here][next];
+        if (clock == NEVER || isBarred[here][next] || (next > 0 && coming > stops.get(next).until)) {
+            return NEVER;
         }
-        if (place + 1 < row.size()) {
-            best.add(row.get(place + 1));
-            return done(best);
-        }
-        return barred.contains(List.of(stop, 0)) ? -1 : done(best) + way[stop][0];
+        return next > 0 ? Math.max(coming, stops.get(next).from) + stops.get(next).time : coming;
     }
 
     long solve(long steps) {
@@ -270,7 +291,7 @@ final class Oracle {
 
     private boolean exchanged(int i, int j) {
         List<Integer> other = new ArrayList<>(round);
-        java.util.Collections.swap(other, i, j);
+        Collections.swap(other, i, j);
         boolean less = walk(other).cost() < walk(round).cost();
         round = less ? other : round;
         return less;
@@ -300,6 +321,11 @@ final class Oracle {
         return n;
     }
 
+    /** The row is taken for the round's first stops, without its being solved. */
+    void freezeRow(List<Integer> row) {
+        frozen = new ArrayList<>(row);
+    }
+
     int add(int stop) {
         if (!known(stop, 1)) {
             return UNKNOWN;
@@ -320,12 +346,14 @@ final class Oracle {
             return OUTSIDE;
         }
         exact = false;
-        if (kind == 0) {
-            barred.add(List.of(a, b));
-        } else {
-            barred.remove(List.of(a, b));
+        isBarred[a][b] = kind == 0;
+        int all = 0;
+        for (boolean[] row : isBarred) {
+            for (boolean one : row) {
+                all += one ? 1 : 0;
+            }
         }
-        return barred.size();
+        return all;
     }
 
     int exchange(int i, int j) {
@@ -345,7 +373,7 @@ final class Oracle {
         for (int b = 0; b <= count() && count() > 0; b++) {
             long least = Long.MAX_VALUE;
             for (int a = 0; a <= count(); a++) {
-                if (a != b && !barred.contains(List.of(a, b))) {
+                if (a != b && !isBarred[a][b]) {
                     least = Math.min(least, way[a][b]);
                 }
             }

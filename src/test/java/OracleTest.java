@@ -1,30 +1,34 @@
 import java.util.Random;
+import java.util.function.LongSupplier;
 
-/** Chance runs of calls, always the same ones, on the class and on the oracle: the answers must be alike. */
-public final class OracleTest {
-    private static final Checks c = new Checks();
-    private static final int CALLS = 120;
+/**
+ * Promises 1 to 14 and section 'What it is': chance runs of 512 calls, always the same ones, on the class and on
+ * the oracle: the answers must be alike.
+ */
+public final class OracleTest extends Checks {
+    private static final int CALLS = 512;
 
     private final Random chance;
     private final RoundSearch x = new RoundSearch();
     private final Oracle o = new Oracle();
     private final String name;
     private final int mostStops;
-    private final long scale;
+    private final int scale;
+    private int called = 0;
 
     private OracleTest(int seed) {
         chance = new Random(seed);
         name = "run " + seed;
-        // Short runs for exact rounds, long ones for those that are inserted.
+        // Few stops for exact rounds, many for those that are inserted.
         mostStops = seed % 3 == 0 ? 20 : Oracle.MOST_LOOKED_AT;
         scale = seed % 2 == 0 ? 4 : 1000;
     }
 
     public static void main(String[] args) {
-        for (int seed = 1; seed <= 1500; seed++) {
+        for (int seed = 1; seed <= 3000; seed++) {
             new OracleTest(seed).run();
         }
-        c.end();
+        end();
     }
 
     private void run() {
@@ -35,9 +39,17 @@ public final class OracleTest {
         for (int k = 0; k < 3 * first; k++) {
             way();
         }
-        for (int k = 0; k < CALLS; k++) {
+        while (called < CALLS) {
             call();
-            same();
+            look();
+        }
+    }
+
+    /** What an object answers behind its 512th call is free, so it is not asked then. */
+    private void ask(String call, LongSupplier got, LongSupplier want) {
+        if (called < CALLS) {
+            called++;
+            due(name + ", call " + called + ", " + call, got.getAsLong(), want.getAsLong());
         }
     }
 
@@ -69,15 +81,15 @@ public final class OracleTest {
             case 1 -> most;
             case 2 -> most + 1;
             case 3 -> chance.nextLong();
-            default -> chance.nextInt((int) scale);
+            default -> chance.nextInt(scale);
         };
     }
 
     private void stop() {
         long time = seconds(100000);
-        long from = chance.nextInt(3) == 0 ? chance.nextInt((int) (10 * scale)) : 0;
-        long until = chance.nextInt(3) == 0 ? from + chance.nextInt((int) (10 * scale)) - 1 : 1000000;
-        c.due(name + " stop", x.stop(time, from, until), o.stop(time, from, until));
+        long from = chance.nextInt(3) == 0 ? chance.nextInt(10 * scale) : 0;
+        long until = chance.nextInt(3) == 0 ? from + chance.nextInt(10 * scale) - 1 : 1000000;
+        ask("stop", () -> x.stop(time, from, until), () -> o.stop(time, from, until));
     }
 
     private void maybeStop() {
@@ -90,58 +102,72 @@ public final class OracleTest {
         int a = point();
         int b = point();
         long t = seconds(100000);
-        x.way(a, b, t);
-        o.way(a, b, t);
+        ask("way", () -> {
+            x.way(a, b, t);
+            o.way(a, b, t);
+            return 0;
+        }, () -> 0);
     }
 
     private void load() {
         int stop = point();
         int n = chance.nextInt(10) == 0 ? 1001 : chance.nextInt(10) - 1;
-        c.due(name + " load", x.load(stop, n), o.load(stop, n));
+        ask("load", () -> x.load(stop, n), () -> o.load(stop, n));
     }
 
     private void limit() {
         int n = chance.nextBoolean() ? -1 : chance.nextInt(60) - 2;
-        c.due(name + " limit", x.limit(n), o.limit(n));
+        ask("limit", () -> x.limit(n), () -> o.limit(n));
     }
 
     // The oracle looks at every row, so it is not asked for more free stops than it can look at.
     private void maybeSolve() {
         if (o.free() <= Oracle.MOST_LOOKED_AT || o.free() > 11) {
             long steps = chance.nextInt(10) == 0 ? 100001 : chance.nextInt(5) == 0 ? 100000 : chance.nextInt(100) - 1;
-            c.due(name + " solve", x.solve(steps), o.solve(steps));
+            ask("solve", () -> x.solve(steps), () -> o.solve(steps));
+            lookAtAll();
         }
     }
 
     private void freeze() {
         int n = chance.nextInt(3) == 0 ? point() : chance.nextInt(3);
-        c.due(name + " freeze", x.freeze(n), o.freeze(n));
+        ask("freeze", () -> x.freeze(n), () -> o.freeze(n));
     }
 
     private void add() {
         int stop = point();
-        c.due(name + " add", x.add(stop), o.add(stop));
+        ask("add", () -> x.add(stop), () -> o.add(stop));
     }
 
     private void arc() {
         int a = point();
         int b = point();
         int kind = chance.nextInt(10) == 0 ? 2 : chance.nextInt(2);
-        c.due(name + " arc", x.arc(a, b, kind), o.arc(a, b, kind));
+        ask("arc", () -> x.arc(a, b, kind), () -> o.arc(a, b, kind));
     }
 
     private void exchange() {
         int i = point();
         int j = point();
-        c.due(name + " exchange", x.exchange(i, j), o.exchange(i, j));
+        ask("exchange", () -> x.exchange(i, j), () -> o.exchange(i, j));
     }
 
-    private void same() {
-        for (int i = -1; i <= o.count(); i++) {
-            c.due(name + " at(" + i + ")", Checks.atOrThrown(x, i), o.at(i));
-            c.due(name + " late(" + i + ")", x.late(i), o.late(i));
+    private void look() {
+        lookAt(point());
+        ask("exact", () -> x.exact() ? 1 : 0, () -> o.exact() ? 1 : 0);
+        if (chance.nextInt(4) == 0) {
+            ask("bound", x::bound, o::bound);
         }
-        c.due(name + " exact", x.exact() ? 1 : 0, o.exact() ? 1 : 0);
-        c.due(name + " bound", x.bound(), o.bound());
+    }
+
+    private void lookAtAll() {
+        for (int i = -1; i <= o.count(); i++) {
+            lookAt(i);
+        }
+    }
+
+    private void lookAt(int i) {
+        ask("at(" + i + ")", () -> atOrThrown(x, i), () -> o.at(i));
+        ask("late(" + i + ")", () -> x.late(i), () -> o.late(i));
     }
 }
