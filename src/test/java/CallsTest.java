@@ -1,3 +1,6 @@
+import com.sun.management.ThreadMXBean;
+import java.lang.management.ManagementFactory;
+
 /** Section 'What it is': 512 calls on one object, all of them answered as the first ones are. */
 public final class CallsTest extends Checks {
     private static final int CALLS = 512;
@@ -15,9 +18,23 @@ public final class CallsTest extends Checks {
 
     private static void solvedExactlyAgainAndAgain() {
         RoundSearch x = withStops(11);
-        for (int call = 12; call <= CALLS; call++) {
+        for (int call = 12; call < CALLS; call++) {
             due("promise 6: call " + call, x.solve(100000), 12000);
         }
+        holds("promise 8: the last call", x.exact());
+    }
+
+    /** All calls of a run live in one room, so the table of an exact search must be made once, not at each call. */
+    private static void theSameRoomIsUsedAgain() {
+        ThreadMXBean threads = (ThreadMXBean) ManagementFactory.getThreadMXBean();
+        RoundSearch x = withStops(11);
+        long thread = Thread.currentThread().getId();
+        long before = threads.getThreadAllocatedBytes(thread);
+        for (int call = 12; call <= CALLS; call++) {
+            x.solve(0);
+        }
+        long bytes = threads.getThreadAllocatedBytes(thread) - before;
+        holds("promise 6: 501 exact searches took " + bytes + " bytes", bytes < 4000000);
     }
 
     private static void insertedAgainAndAgain() {

@@ -33,6 +33,7 @@ final class Oracle {
     private List<Integer> round = null;
     private List<Integer> frozen = new ArrayList<>();
     private boolean exact = false;
+    private long lastStep = 0;
 
     Oracle() {
         for (long[] row : way) {
@@ -274,6 +275,7 @@ final class Oracle {
 
     private void exchanges(long steps) {
         long reckoned = 0;
+        lastStep = 0;
         boolean again = true;
         while (again) {
             again = false;
@@ -284,9 +286,15 @@ final class Oracle {
                     }
                     reckoned++;
                     again = exchanged(i, j);
+                    lastStep = again ? reckoned : lastStep;
                 }
             }
         }
+    }
+
+    /** The number of the step by which the latest solve() did its last exchange; 0 if it did none. */
+    long lastStep() {
+        return lastStep;
     }
 
     private boolean exchanged(int i, int j) {

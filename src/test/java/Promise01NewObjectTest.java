@@ -46,10 +46,21 @@ public final class Promise01NewObjectTest extends Checks {
     }
 
     private static void objectsHaveNothingInCommon() {
-        RoundSearch x = Scene.FULL.make();
+        RoundSearch x = solvedLine();
+        x.freeze(1);
         RoundSearch y = new RoundSearch();
-        Later.GROWN.same("promise 1: beside another one", y, new RoundSearch());
-        Later.LOOKED_AT.same("promise 1: the other one", x, Scene.FULL.make());
+        due("promise 1: no stops beside another one", y.bound(), 0);
+        due("promise 1: no round beside another one", atOrThrown(y, 0), THROWN);
+        for (int k = 1; k <= 3; k++) {
+            due("promise 1: numbers beside another one", y.stop(0, 0, EVER), k);
+        }
+        y.way(0, 1, 0);
+        due("promise 1: untold ways beside another one", y.solve(0), 3000);
+        round("promise 1: nothing frozen beside another one", y, 1, 3, 2);
+        round("promise 1: the other one's round", x, 3, 2, 1);
+        holds("promise 1: the other one is exact", x.exact());
+        due("promise 1: the other one's ways", x.solve(0), 65);
+        due("promise 1: what the other one has frozen", x.add(3), STATE);
     }
 
     private static void constants() {

@@ -57,6 +57,15 @@ public final class Promise02StopTest extends Checks {
         }
     }
 
+    /** until - from would wrap around here, and look as if until were the greater one. */
+    private static void fromAgainstAnUntilFarBelow() {
+        for (long from : new long[] {1, 5, 1000000}) {
+            refusedEverywhere("promise 2: from " + from + ", until the least",
+                x -> x.stop(0, from, Long.MIN_VALUE), OUTSIDE);
+        }
+        refusedEverywhere("promise 2: from the greatest, until -2", x -> x.stop(0, Long.MAX_VALUE, -2), OUTSIDE);
+    }
+
     private static void allNumbersWrong() {
         refusedEverywhere("promise 2: all wrong", x -> x.stop(-1, 1000002, 1000001), OUTSIDE);
         refusedEverywhere("promise 2: all far", x -> x.stop(Long.MIN_VALUE, Long.MAX_VALUE, Long.MIN_VALUE), OUTSIDE);

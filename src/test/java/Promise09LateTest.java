@@ -131,9 +131,11 @@ public final class Promise09LateTest extends Checks {
 
     private static void theRoundIsGone() {
         RoundSearch x = twoLate();
+        x.freeze(3);
         x.stop(0, 0, 0);
-        due("promise 9: by a stop", x.late(0), 0);
+        due("promise 9: by a stop, though late ones are frozen", x.late(0), 0);
         RoundSearch y = twoLate();
+        y.freeze(1);
         y.load(1, 1);
         y.limit(0);
         y.solve(0);

@@ -133,6 +133,22 @@ public final class Promise13ExchangeTest extends Checks {
         round("promise 13: a fault each, sooner home", x, 1, 2);
     }
 
+    private static void lateAndBarredHomeWeighAlike() {
+        RoundSearch x = withStops(1);
+        x.stop(0, 0, 1999);
+        x.arc(0, 2, 0);
+        x.way(0, 2, 1001);
+        x.solve(0);
+        round("promise 13: late at 2 beside barred to 2", x, 1, 2);
+        x.arc(0, 2, 1);
+        x.arc(1, 0, 0);
+        x.way(1, 0, 999);
+        due("promise 13: late beside barred home, alike home", x.exchange(0, 1), 0);
+        x.way(1, 0, 998);
+        due("promise 13: late beside barred home, sooner home", x.exchange(0, 1), 1);
+        round("promise 13: late beside barred home, sooner home", x, 2, 1);
+    }
+
     private static void barredHomeCounts() {
         RoundSearch x = solvedLine();
         x.arc(1, 0, 0);

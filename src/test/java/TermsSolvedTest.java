@@ -324,6 +324,26 @@ public final class TermsSolvedTest extends Checks {
         round("promise 11: 3, 1, 2 is less", x, 3, 1, 2);
     }
 
+    /** 3, 2, 1 (3900), by the third step 3, 1, 2 (3800), and then by the first one anew 1, 3, 2 (3700). */
+    private static void itBeginsAnewAtTheFirstPlace() {
+        RoundSearch x = withStops(3);
+        for (int a = 1; a <= 3; a++) {
+            x.arc(a, 0, 0);
+        }
+        x.way(1, 2, 900);
+        x.way(2, 1, 900);
+        x.way(3, 1, 900);
+        x.way(1, 3, 700);
+        x.way(3, 0, 1300);
+        due("promise 6: two steps", x.solve(2), 3900);
+        round("promise 6: two steps", x, 3, 2, 1);
+        due("promise 6: three steps", x.solve(3), 3800);
+        round("promise 6: three steps", x, 3, 1, 2);
+        due("promise 6: four steps", x.solve(4), 3700);
+        round("promise 6: four steps", x, 1, 3, 2);
+        due("promise 6: until there is none", x.solve(100000), 3700);
+    }
+
     private static void exchangesBehindTheFrozenAlone() {
         RoundSearch x = improvedTwice();
         x.solve(0);
