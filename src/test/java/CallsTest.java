@@ -24,7 +24,10 @@ public final class CallsTest extends Checks {
         holds("promise 8: the last call", x.exact());
     }
 
-    /** All calls of a run live in one room, so the table of an exact search must be made once, not at each call. */
+    /**
+     * Not a promise, but rule 12 of LANGUAGE.md: what a run makes is counted. So the table of an exact search must be
+     * made once, not at each call; how it is held is free.
+     */
     private static void theSameRoomIsUsedAgain() {
         ThreadMXBean threads = (ThreadMXBean) ManagementFactory.getThreadMXBean();
         RoundSearch x = withStops(11);
@@ -34,7 +37,7 @@ public final class CallsTest extends Checks {
             x.solve(0);
         }
         long bytes = threads.getThreadAllocatedBytes(thread) - before;
-        holds("promise 6: 501 exact searches took " + bytes + " bytes", bytes < 4000000);
+        holds("rule 12: 501 exact searches took " + bytes + " bytes", bytes < 4000000);
     }
 
     private static void insertedAgainAndAgain() {

@@ -35,8 +35,24 @@ public final class FaceTest extends Checks {
         for (String member : seen) {
             holds("is of the document: " + member, FACE.contains(member));
         }
-        holds("the class is final", Modifier.isFinal(RoundSearch.class.getModifiers()));
+        theClassItself();
+        classesInside();
         end();
+    }
+
+    // A class above it, or an interface, would bring members that are not declared here.
+    private static void theClassItself() {
+        int modifiers = RoundSearch.class.getModifiers();
+        holds("the class is public and final", Modifier.isPublic(modifiers) && Modifier.isFinal(modifiers));
+        holds("it is of no other class", RoundSearch.class.getSuperclass() == Object.class);
+        due("it is of no interface", RoundSearch.class.getInterfaces().length, 0);
+    }
+
+    private static void classesInside() {
+        for (Class<?> inside : RoundSearch.class.getDeclaredClasses()) {
+            int modifiers = inside.getModifiers();
+            fails(inside + " is seen", Modifier.isPublic(modifiers) || Modifier.isProtected(modifiers));
+        }
     }
 
     private static Set<String> visible() {
